@@ -19,8 +19,8 @@ public final class WholeRegisters {
     private static final int LEFT_WORDS = WORDS + 2;
 
     /**
-     * How far a guessed digit may lie above the true one. A digit of a quotient is at most 1 too
-     * great; that of a root at most 3, since its own square is left out of the guess.
+     * How far a guessed digit may lie above the true one: by 2 at most in a quotient, whose divisor
+     * has its top bit set, and by 1 more in a root, where the digit is a part of the divisor.
      */
     private static final int GUESS_IS_OVER_BY = 3;
 
@@ -339,7 +339,6 @@ public final class WholeRegisters {
         int count = (bits + 65) / 64;
         int up = (count * 64 - 2 - bits) / 2;
         moveUp(a, 2 * up, left);
-        Arrays.fill(divisor, 0);
         takeFirstRootDigit(count);
         for (int at = count - 2; at >= 0; at--) {
             takeRootDigit(at, count);
@@ -390,36 +389,21 @@ public final class WholeRegisters {
     }
 
     /**
-     * The digit that the three words of what is left from top downwards and the two words of the
-     * divisor from topOfDivisor downwards suggest: never too small.
+     * The digit that the two words of what is left from top downwards and the divisor's top word
+     * suggest: never too small, and hardly too great since the divisor's top bit is set.
      */
     private long guessDigit(int top, int topOfDivisor) {
         long first = divisor[topOfDivisor] & LOW_WORD;
         if (first == 0) {
             return 0;
         }
-        long second = topOfDivisor >= 1 ? divisor[topOfDivisor - 1] & LOW_WORD : 0;
-        int third = top >= 2 ? left[top - 2] : 0;
-        long pair = pairOf(left[top], left[top - 1]);
-        long digit = Long.divideUnsigned(pair, first);
-        if (digit > LOW_WORD) {
-            digit = LOW_WORD;
-        }
-        long over = pair - digit * first;
-        for (int i = 0; i < 2 && over <= LOW_WORD; i++) {
-            if (Long.compareUnsigned(digit * second, pairOf(over, third)) <= 0) {
-                break;
-            }
-            digit--;
-            over += first;
-        }
-        return digit;
+        long digit = Long.divideUnsigned(pairOf(left[top], left[top - 1]), first);
+        return Math.min(digit, LOW_WORD);
     }
 
     /**
-     * Takes digit times the divisor's length words from word from on away from what is left from
-     * word at on. Answers whether that would be below 0: then it stands there with the sum of
-     * 2^32 to the power of length + 1.
+     * Takes digit times the divisor (its length words from word from on) away from what is left,
+     * from word at on. Answers whether that is below 0: then a borrow is missing above its words.
      */
     private boolean takeMultiple(int at, int from, int length, long digit) {
         long carry = 0;
@@ -435,8 +419,8 @@ public final class WholeRegisters {
     }
 
     /**
-     * Adds the divisor's length words from word from on, and more, to what is left from word at
-     * on, after that fell below 0. Answers whether it is below 0 still.
+     * Adds the divisor (its length words from word from on) and more to what is left, from word at
+     * on, where that has fallen below 0. Answers whether it is below 0 still.
      */
     private boolean giveBack(int at, int from, int length, long more) {
         long carry = more;
