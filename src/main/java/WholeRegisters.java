@@ -231,7 +231,15 @@ public final class WholeRegisters {
         if (count == 0) {
             return 0;
         }
-        return count * WORD_BITS - Integer.numberOfLeadingZeros(words[a][count - 1]);
+        return (count - 1) * WORD_BITS + bitsOfWord(words[a][count - 1]);
+    }
+
+    private static int bitsOfWord(int word) {
+        int bits = WORD_BITS;
+        while (bits > 0 && word >>> (bits - 1) == 0) {
+            bits--;
+        }
+        return bits;
     }
 
     private int orderOfSizes(int a, int b) {
@@ -239,8 +247,10 @@ public final class WholeRegisters {
             return counts[a] < counts[b] ? -1 : 1;
         }
         for (int i = counts[a] - 1; i >= 0; i--) {
-            if (words[a][i] != words[b][i]) {
-                return Integer.compareUnsigned(words[a][i], words[b][i]) < 0 ? -1 : 1;
+            long wordOfA = words[a][i] & LOW_WORD;
+            long wordOfB = words[b][i] & LOW_WORD;
+            if (wordOfA != wordOfB) {
+                return wordOfA < wordOfB ? -1 : 1;
             }
         }
         return 0;
@@ -393,12 +403,18 @@ public final class WholeRegisters {
      * suggest: never too small, and hardly too great since the divisor's top bit is set.
      */
     private long guessDigit(int top, int topOfDivisor) {
-        long first = divisor[topOfDivisor] & LOW_WORD;
-        if (first == 0) {
+        long pair = pairOf(left[top], left[top - 1]);
+        return Math.min(quotientOfPair(pair, divisor[topOfDivisor] & LOW_WORD), LOW_WORD);
+    }
+
+    /** The quotient of a pair, read without a sign, and a word whose top bit is set. */
+    private static long quotientOfPair(long pair, long word) {
+        if (word == 0) {
             return 0;
         }
-        long digit = Long.divideUnsigned(pairOf(left[top], left[top - 1]), first);
-        return Math.min(digit, LOW_WORD);
+        // Only half the pair is sure to have no sign; its quotient doubled is right or 1 too small.
+        long quotient = (pair >>> 1) / word * 2;
+        return pair - quotient * word >= word ? quotient + 1 : quotient;
     }
 
     /**
