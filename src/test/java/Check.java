@@ -17,6 +17,10 @@ final class Check {
         }
     }
 
+    static int failed() {
+        return failed;
+    }
+
     static void end() {
         System.out.println(passed + " passed, " + failed + " failed");
         if (failed != 0) {
